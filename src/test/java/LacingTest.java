@@ -46,7 +46,14 @@ public final class LacingTest {
         Check.due("28: a whole root", x.length(0), 50);
         x.lace(200, 0, 1000, 2);
         Check.due("28: the longest", x.length(0), 12000);
-        Check.due("28: spoke", x.length(8), BAD);
+        x.wheel(32);
+        int[] due = {8000, 8188, 8701, 9417, 10198, 10923, 11501, 11872};
+        for (int c = 0; c < 8; c++) {
+            x.lace(200, 0, 1000, c);
+            Check.due("28: ahead, c " + c, x.length(1), due[c]);
+            Check.due("28: behind, c " + c, x.length(31), due[c]);
+        }
+        Check.due("28: spoke", x.length(32), BAD);
         Check.due("28: spoke", x.length(-1), BAD);
     }
 

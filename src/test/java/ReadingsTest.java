@@ -195,6 +195,11 @@ public final class ReadingsTest {
         Check.due("16: loose", x.why(), 407);
         x.tune(6, -1);
         Check.due("16: the least loose one", x.why(), 406);
+        x.kind(0, 0);
+        x.tune(0, -1);
+        Check.due("16: the first one is loose", x.why(), 400);
+        x.kind(0, 1);
+        x.tune(0, 500);
         x.tune(1, 601);
         Check.due("16: right", x.why(), 301);
         x.tune(0, 399);

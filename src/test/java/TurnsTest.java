@@ -13,6 +13,8 @@ public final class TurnsTest {
         planEnds();
         fewestNoneAndOne();
         fewestTwo();
+        fewestOfBothWays();
+        fewestOfEachLimit();
         fewestRefused();
         log();
         undo();
@@ -65,8 +67,12 @@ public final class TurnsTest {
         Check.due("17: nothing changed", x.about(0, 3), 1000);
         Check.due("17: nothing logged", x.count(2), 1);
         Check.due("17: others stay", x.about(1, 3), 350);
+        for (int other : new int[] {0, 4}) {
+            int was = x.tune(other, 1001);
+            Check.due("17: another one is above it", x.turn(2, -1), NO);
+            x.tune(other, was);
+        }
         x.tune(4, 1001);
-        Check.due("17: another one is above it", x.turn(2, -1), NO);
         Check.due("17: brought back", x.turn(4, -1), 901);
         Check.due("17: another one would be above it", x.turn(1, -1), NO);
         x.table(3, -1);
@@ -125,7 +131,6 @@ public final class TurnsTest {
         Check.due("18: two alike, the least", x.next(), 5);
         x.read(1, 3, 30);
         Check.due("18: no more than 30 less", x.next(), NONE);
-        // both ways make 50 of 100, so that the one above 0 is taken
         x.wheel(8);
         x.table(1, -1);
         Check.fill(x, 2, 50);
@@ -137,6 +142,17 @@ public final class TurnsTest {
         Check.due("18: spread left", x.next(), 1);
         x.turn(0, -1);
         Check.due("18: none is better", x.next(), NONE);
+        x.wheel(8);
+        x.limit(3, 1000);
+        Check.fill(x, 0, 3);
+        x.read(0, 0, 17);
+        x.limit(2, 1);
+        Check.due("18: middle", x.next(), 1);
+        x.read(0, 0, -17);
+        // -133 / 8 is -17 still
+        Check.due("18: middle, below 0", x.next(), NONE);
+        x.enter(0, 0, 8);
+        Check.due("18: middle, below 0, by 8", x.next(), 0);
     }
 
     private static void plan() {
@@ -204,6 +220,8 @@ public final class TurnsTest {
         dueFewest("20: within", new WheelStand(), 0);
         dueFewest("20: within, with a pull above limit 4", limited(flat(), 1), 0);
         dueFewest("20: one", flat(0, 0, 40), 1, 2, -4);
+        dueFewest("20: the first one", flat(-40), 1, 0, 4);
+        dueFewest("20: one more than four", flat(-46));
         dueFewest("20: the nearest to 0", flat(0, 0, 0, -15), 1, 3, 1);
         dueFewest("20: too far for one", flat(0, 0, 46));
         WheelStand x = flat(6, 0, 6);
@@ -240,6 +258,46 @@ public final class TurnsTest {
         dueFewest("20: far", y);
         Check.due("20: nothing made", y.reading(1, 2), 90);
         Check.due("20: no pull changed", y.about(2, 3), 500);
+    }
+
+    /** Spoke 0 could go both ways: on, with 7 on; back, with 1 back. */
+    private static void fewestOfBothWays() {
+        WheelStand x = flat(0, 2, 0, 1, 1, 0, 0, -2);
+        Check.fill(x, 1, 2, -1);
+        x.limit(1, 1);
+        dueFewest("20: of two alike that above 0", x, 2, 0, 1, 7, 1);
+        x.snap(7);
+        dueFewest("20: the other way", x, 2, 0, -1, 1, -1);
+    }
+
+    private static void fewestOfEachLimit() {
+        WheelStand left = new WheelStand();
+        Check.fill(left, 2, 30);
+        left.tune(2, 360);
+        dueFewest("20: spread left", left, 1, 2, 2);
+        left.tune(2, 500);
+        left.tune(3, 650);
+        dueFewest("20: spread right", left, 1, 3, -2);
+        left.tune(6, 290);
+        dueFewest("20: both spreads", left, 2, 3, -2, 6, 4);
+        left.tune(6, 279);
+        dueFewest("20: too far spread", left);
+        WheelStand loose = new WheelStand();
+        Check.fill(loose, 2, 30);
+        loose.limit(3, 1000);
+        loose.tune(0, -31);
+        dueFewest("20: loose", loose, 1, 0, 2);
+        loose.tune(7, -120);
+        dueFewest("20: two loose", loose, 2, 0, 2, 7, 4);
+        WheelStand middle = new WheelStand();
+        Check.fill(middle, 0, 20, 10);
+        middle.read(0, 0, 9);
+        middle.limit(2, 4);
+        dueFewest("20: middle", middle, 1, 0, -1);
+        middle.read(0, 0, -9);
+        dueFewest("20: middle, below 0", middle, 1, 0, 1);
+        middle.kind(0, 0);
+        dueFewest("20: middle, by the next one", middle, 1, 1, -1);
     }
 
     private static void fewestRefused() {
