@@ -46,17 +46,11 @@ public final class BreaksTest {
             Check.due("23: it stands", x.about(0, 0), 1);
             Check.due("23: it pulls", x.about(0, 3), way);
             Check.due("23: the other stays", x.about(1, 3), way * 100000000);
-            Check.due("23: the other would give too much, too", giveBack(x, way), NO);
+            Check.due("23: nor can 0 bear all of 1", x.snap(1), NO);
             x.tune(0, -way);
             Check.due("23: less is borne", x.snap(0), -way);
             Check.due("23: less", x.about(1, 3), way * 99999999);
         }
-    }
-
-    /** 1 breaks, of whose neighbours 0 has so much that it alone could not bear it. */
-    private static int giveBack(WheelStand x, int way) {
-        x.tune(0, way);
-        return x.snap(1);
     }
 
     /** Breaks 0, 1, 2 in turn, each giving all that it has to its neighbours, until 1 has 256 times 390625. */
