@@ -448,11 +448,14 @@ public final class WheelStand {
         final int[][] readings = new int[ROWS][MOST_HOLES];
         final int[][] straight = new int[ROWS][MOST_HOLES];
         final int[][] made = new int[ROWS][MOST_HOLES];
+        /** How many steps lie between holes, by how far one is ahead of the other: searches ask this most of all. */
+        private final int[] lessWay = new int[MOST_HOLES];
         int holes = FIRST_HOLES;
 
         void begin(int many) {
             holes = many;
             for (int i = 0; i < many; i++) {
+                lessWay[i] = Math.min(i, many - i);
                 kinds[i] = i % 2 == 0 ? LEFT : RIGHT;
                 pulls[i] = FIRST_PULL;
                 for (int row = 0; row < ROWS; row++) {
@@ -480,8 +483,8 @@ public final class WheelStand {
         }
 
         int steps(int i, int j) {
-            int oneWay = Math.abs(i - j);
-            return Math.min(oneWay, holes - oneWay);
+            // the holes are always a power of two, so this is the way round from i on to j
+            return lessWay[(j - i) & (holes - 1)];
         }
 
         int bentAt(int row, int place) {
@@ -551,6 +554,9 @@ public final class WheelStand {
         private int force;
         private long sideTotal;
         private long quarterTotal;
+        /** The two that made the spread which was measured last. */
+        private int slackest;
+        private int tightest;
 
         Gauge(Wheel rig, Tables tables, int[] limits) {
             this.rig = rig;
@@ -579,20 +585,16 @@ public final class WheelStand {
         /** What is supposed is done. */
         void keep() {
             for (int i = 0; i < rig.holes; i++) {
-                rig.made[SIDE][i] += shiftAt(SIDE, i);
-                rig.made[UP][i] += shiftAt(UP, i);
+                rig.made[SIDE][i] = readingAt(SIDE, i) - rig.straight[SIDE][i];
+                rig.made[UP][i] = readingAt(UP, i) - rig.straight[UP][i];
                 rig.pulls[i] = pullOf(i);
             }
             rest();
         }
 
-        private int shiftAt(int row, int place) {
-            int times = row == SIDE ? sideways : force;
-            return times * tables.rows[row][rig.steps(spoke, place)];
-        }
-
         int readingAt(int row, int place) {
-            return rig.bentAt(row, place) + shiftAt(row, place);
+            int times = row == SIDE ? sideways : force;
+            return rig.straight[row][place] + rig.made[row][place] + times * tables.rows[row][rig.steps(spoke, place)];
         }
 
         int pullOf(int j) {
@@ -613,8 +615,14 @@ public final class WheelStand {
             for (int j = 0; j < rig.holes; j++) {
                 if (rig.leanOf(j) == alike) {
                     int pull = pullOf(j);
-                    least = Math.min(least, pull);
-                    greatest = Math.max(greatest, pull);
+                    if (pull < least) {
+                        least = pull;
+                        slackest = j;
+                    }
+                    if (pull > greatest) {
+                        greatest = pull;
+                        tightest = j;
+                    }
                 }
             }
             return greatest < least ? 0 : greatest - least;
@@ -661,10 +669,6 @@ public final class WheelStand {
             return Math.abs(middle()) > limits[OF_MIDDLE];
         }
 
-        private boolean isSpread(int alike) {
-            return spreadOf(alike) > limits[OF_SPREAD];
-        }
-
         private boolean bearsTooMuch(int j) {
             return pullOf(j) > limits[OF_PULL];
         }
@@ -681,10 +685,10 @@ public final class WheelStand {
             if (isOffMiddle()) {
                 return 200;
             }
-            if (isSpread(1)) {
+            if (spreadOf(1) > limits[OF_SPREAD]) {
                 return 300;
             }
-            if (isSpread(-1)) {
+            if (spreadOf(-1) > limits[OF_SPREAD]) {
                 return 301;
             }
             for (int j = 0; j < rig.holes; j++) {
@@ -705,14 +709,14 @@ public final class WheelStand {
             return NONE;
         }
 
-        /** Whether a fault, told before by its number, is there with what is supposed now. */
-        boolean hasFault(int fault) {
+        /** Whether the fault that was told last, by its number, is surely there with what is supposed now, too. */
+        boolean stillHas(int fault) {
             int which = fault % 100;
             switch (fault / 100) {
                 case 0: return isBent(SIDE, which);
                 case 1: return isBent(UP, which);
                 case 2: return isOffMiddle();
-                case 3: return isSpread(which == 0 ? 1 : -1);
+                case 3: return pullOf(tightest) - pullOf(slackest) > limits[OF_SPREAD];
                 case 4: return isLoose(which);
                 case 5: return bearsTooMuch(which);
                 default: return false;
@@ -794,29 +798,21 @@ public final class WheelStand {
             for (int t = from; t < rig.holes; t++) {
                 for (int i = 0; i < TRIES && !rig.isGone(t); i++) {
                     gauge.suppose(t, nearest(i));
-                    if (bringsWithin()) {
+                    // what failed last is asked first, for mostly it fails again
+                    if (gauge.stillHas(suspect)) {
+                        continue;
+                    }
+                    suspect = gauge.firstFault();
+                    if (suspect == NONE) {
+                        suspect = gauge.firstOverload();
+                    }
+                    if (suspect == NONE) {
                         found[at] = t;
                         found[at + 1] = nearest(i);
                         return true;
                     }
                 }
             }
-            return false;
-        }
-
-        /** What failed last is asked first, for mostly it fails again. */
-        private boolean bringsWithin() {
-            if (gauge.hasFault(suspect)) {
-                return false;
-            }
-            int fault = gauge.firstFault();
-            if (fault == NONE) {
-                fault = gauge.firstOverload();
-            }
-            if (fault == NONE) {
-                return true;
-            }
-            suspect = fault;
             return false;
         }
 
