@@ -8,7 +8,7 @@ public final class BreaksEdgesTest {
         Sentence.says("promise 23", "BAD", BreaksEdgesTest::snapBad);
         Sentence.says("promise 23", "NO: it is GONE", BreaksEdgesTest::snapGone);
         Sentence.says("promise 23", "or some PULL would be of a size above 100000000", BreaksEdgesTest::snapTooMuch);
-        Sentence.says("promise 23", "some PULL (of any other SPOKE, be it changed or not)", BreaksEdgesTest::snapTooMuchElsewhere);
+        Sentence.says("promise 23, of one far off", "some PULL would be of a size above 100000000", BreaksEdgesTest::snapTooMuchElsewhere);
         Sentence.says("promise 24", "A SPOKE is put ANEW: 0.", BreaksEdgesTest::anew);
         Sentence.says("promise 24", "BAD: spoke, kind (0 .. 3, 5), pull (0 .. 100000)", BreaksEdgesTest::anewBad);
         Sentence.says("promise 24", "NO: it is not GONE.", BreaksEdgesTest::anewNo);

@@ -41,7 +41,7 @@ public final class BuildingEdgesTest {
         Sentence.says("promise 11", "BAD.", BuildingEdgesTest::isOfBad);
         Sentence.says("promise 12", "What a TABLE tells for d steps (0 .. 16).", BuildingEdgesTest::tellsFar);
         Sentence.says("promise 12", "BAD.", BuildingEdgesTest::tellsBad);
-        Sentence.says("promises 2 to 12", "BAD (a SPOKE or place that the WHEEL has not)", BuildingEdgesTest::holesEnd);
+        Sentence.says("promises 3, 7, 9, 10, 11, of the last hole", "BAD", BuildingEdgesTest::holesEnd);
         Sentence.end();
     }
 

@@ -6,7 +6,7 @@ public final class TermsBreaksTest {
     public static void main(String[] args) {
         Sentence.says("terms 4", "SPOKE s, that is not GONE, with PULL v", TermsBreaksTest::notGone);
         Sentence.says("terms 4", "each other one j that is not GONE gets v * BREAK[d] / 1000 more", TermsBreaksTest::othersGet);
-        Sentence.says("terms 4", "v * BREAK[d] / 1000, cut towards below", TermsBreaksTest::cutTowardsBelow);
+        Sentence.says("terms 4, towards below", "v * BREAK[d] / 1000", TermsBreaksTest::cutTowardsBelow);
         Sentence.says("terms 4", "s is GONE then, its PULL 0", TermsBreaksTest::goneThen);
         Sentence.says("terms 4", "ANEW: one that is GONE gets a KIND (but GONE) and a PULL", TermsBreaksTest::anew);
         Sentence.says("terms 4", "others stay as they are", TermsBreaksTest::othersStay);

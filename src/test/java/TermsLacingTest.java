@@ -3,17 +3,17 @@ public final class TermsLacingTest {
     private static final int BAD = Sentence.BAD;
 
     public static void main(String[] args) {
-        Sentence.says("terms 5", "radius r (1 .. 200), off o (0 .. 200); the rim radius R (1 .. 1000); cross c others (0 .. 7)", TermsLacingTest::ranges);
+        Sentence.says("terms 5", "flanges have radius r (1 .. 200), stand off o (0 .. 200); the rim radius R (1 .. 1000); SPOKES cross c others (0 .. 7", TermsLacingTest::ranges);
         Sentence.says("terms 5", "STRAIGHT ones 0", TermsLacingTest::straight);
         Sentence.says("terms 5", "h = 2 * c * 64 / N steps (of 64 to a round) ahead of its rim hole", TermsLacingTest::ahead);
         Sentence.says("terms 5", "if s / 2 is even, else as much behind", TermsLacingTest::behind);
         Sentence.says("terms 5", "the greatest whole number whose square is not above", TermsLacingTest::wholeRoots);
-        Sentence.says("terms 5", "200 * R * r * COS(h) / 1024, cut towards below", TermsLacingTest::cutTowardsBelow);
+        Sentence.says("terms 5, towards below", "200 * R * r * COS(h) / 1024", TermsLacingTest::cutTowardsBelow);
         Sentence.says("terms 5", "(at least 0)", TermsLacingTest::atLeastZero);
-        Sentence.says("terms 5", "COS(h) is SIN(16 + h); SIN(32 - k) = SIN(k); SIN(- k) = - SIN(k)", TermsLacingTest::cosines);
+        Sentence.says("terms 5", "SIN(32 - k) = SIN(k); SIN(- k) = - SIN(k)", TermsLacingTest::cosines);
         Sentence.says("terms 5", "the same after 64", TermsLacingTest::afterARound);
         Sentence.says("terms 5", "Two SPOKES s, t of like LEAN (1 or -1) CROSS", TermsLacingTest::likeLean);
-        Sentence.says("terms 5", "w as the steps (1 .. 63, of 64) from the rim hole of s round to that of t", TermsLacingTest::round);
+        Sentence.says("terms 5", "with w as the steps (1 .. 63, of 64) from the rim hole of s (s * 64 / N) round to that of t (t * 64 / N)", TermsLacingTest::round);
         Sentence.says("terms 5", "if w + y - x is below 0", TermsLacingTest::belowZero);
         Sentence.says("terms 5", "or above 64", TermsLacingTest::above64);
         Sentence.end();
@@ -100,6 +100,11 @@ public final class TermsLacingTest {
         Sentence.due(laced(32, 30, 0, 40, 4), 500, "length", 0);
         Sentence.due(laced(32, 200, 0, 1000, 0), 8000, "length", 0);
         Sentence.due(laced(8, 200, 0, 1000, 2), 12000, "length", 0);
+        // about powers of two: 100 times 671250, 670962, 167810, 167725
+        Sentence.due(laced(8, 175, 200, 775, 1), 8192, "length", 0);
+        Sentence.due(laced(8, 199, 200, 769, 1), 8191, "length", 0);
+        Sentence.due(laced(8, 199, 200, 297, 1), 4096, "length", 0);
+        Sentence.due(laced(8, 190, 180, 315, 1), 4095, "length", 0);
     }
 
     private static void cutTowardsBelow() {

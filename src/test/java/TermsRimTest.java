@@ -16,15 +16,15 @@ public final class TermsRimTest {
         Sentence.says("terms 2", "MIDDLE: all SIDE readings together / N.", TermsRimTest::middle);
         Sentence.says("terms 2", "SPREAD, of SPOKES that LEAN alike (1 or -1): the greatest PULL less the least one", TermsRimTest::spread);
         Sentence.says("terms 2", "0 with none", TermsRimTest::spreadOfNone);
-        Sentence.says("terms 2", "LIMITS: 1 .. 1000000 each (100 at first, the last 1000)", TermsRimTest::limits);
-        Sentence.says("terms 2", "no SIDE is of a size above LIMIT 0", TermsRimTest::sideWithin);
-        Sentence.says("terms 2", "no UP is of a size above LIMIT 1", TermsRimTest::upWithin);
-        Sentence.says("terms 2", "no MIDDLE is of a size above LIMIT 2", TermsRimTest::middleWithin);
+        Sentence.says("terms 2", "1 .. 1000000 each (100 at first, the last 1000)", TermsRimTest::limits);
+        Sentence.says("terms 2, SIDE", "no SIDE, UP, MIDDLE is of a size above LIMITS 0, 1, 2", TermsRimTest::sideWithin);
+        Sentence.says("terms 2, UP", "no SIDE, UP, MIDDLE is of a size above LIMITS 0, 1, 2", TermsRimTest::upWithin);
+        Sentence.says("terms 2, MIDDLE", "no SIDE, UP, MIDDLE is of a size above LIMITS 0, 1, 2", TermsRimTest::middleWithin);
         Sentence.says("terms 2", "no SPREAD above LIMIT 3", TermsRimTest::spreadWithin);
         Sentence.says("terms 2", "no PULL of a SPOKE that is not GONE below 0 (that is LOOSE)", TermsRimTest::loose);
-        Sentence.says("terms 2", "IT IS WITHIN: LIMIT 4 is not asked", TermsRimTest::limitOfPullsIsNotAsked);
-        Sentence.says("terms 2", "WORST: the greatest of 1000 * v / LIMIT, each with its LIMIT", TermsRimTest::worstOfEach);
-        Sentence.says("terms 2", "v being sizes", TermsRimTest::worstBySizes);
+        Sentence.says("terms 2, LIMIT 4 is not asked", "IT IS WITHIN if", TermsRimTest::limitOfPullsIsNotAsked);
+        Sentence.says("terms 2", "WORST: the greatest of 1000 * v / LIMIT", TermsRimTest::worstOfEach);
+        Sentence.says("terms 2", "v being sizes of SIDE, UP, MIDDLE and the SPREADS, each with its LIMIT", TermsRimTest::worstBySizes);
         Sentence.says("terms 2", "1000000000, if that is more", TermsRimTest::worstAtMost);
         Sentence.end();
     }

@@ -6,15 +6,20 @@ public final class TermsTurnsTest {
     public static void main(String[] args) {
         Sentence.says("terms 3", "TO TURN s by n quarters is refused (NO) if s is GONE", TermsTurnsTest::goneIsNotTurned);
         Sentence.says("terms 3", "or some PULL would be above LIMIT 4", TermsTurnsTest::pullsUpToTheLimit);
-        Sentence.says("terms 3", "some PULL (of any SPOKE, be it turned or not)", TermsTurnsTest::anyPull);
+        Sentence.says("terms 3, of any SPOKE", "some PULL would be above LIMIT 4", TermsTurnsTest::anyPull);
         Sentence.says("terms 3", "of all SPOKES, both ways (1 and -1)", TermsTurnsTest::nextBothWays);
         Sentence.says("terms 3", "not refused, that with which WORST would be least", TermsTurnsTest::nextIsNotRefused);
+        Sentence.says("terms 3, of all that WORST is of", "that with which WORST would be least", TermsTurnsTest::nextByEach);
         Sentence.says("terms 3", "and less than it is", TermsTurnsTest::nextIsLess);
         Sentence.says("terms 3", "of several the least SPOKE, of it 1", TermsTurnsTest::nextOfSeveral);
         Sentence.says("terms 3", "(Whether the LOG is full is not asked for this, and the fewest.)", TermsTurnsTest::fullIsNotAsked);
         Sentence.says("terms 3", "A PLAN does the next one, again and again, n times at most", TermsTurnsTest::planAtMost);
         Sentence.says("terms 3", "as long as there is one", TermsTurnsTest::planAsLong);
-        Sentence.says("terms 3", "THE FEWEST: of no SPOKE", TermsTurnsTest::fewestNone);
+        Sentence.says("terms 3, SIDE and UP", "THE FEWEST: turns by which it would be WITHIN", TermsTurnsTest::fewestByRim);
+        Sentence.says("terms 3, MIDDLE", "THE FEWEST: turns by which it would be WITHIN", TermsTurnsTest::fewestByMiddle);
+        Sentence.says("terms 3, SPREAD", "THE FEWEST: turns by which it would be WITHIN", TermsTurnsTest::fewestBySpread);
+        Sentence.says("terms 3, LOOSE", "THE FEWEST: turns by which it would be WITHIN", TermsTurnsTest::fewestByLoose);
+        Sentence.says("terms 3", "of no SPOKE", TermsTurnsTest::fewestNone);
         Sentence.says("terms 3", "else of one, by a number of quarters -4 .. 4 but 0", TermsTurnsTest::fewestOne);
         Sentence.says("terms 3", "else of two SPOKES s below t (each so)", TermsTurnsTest::fewestTwo);
         Sentence.says("terms 3", "of several the least s", TermsTurnsTest::fewestLeastS);
@@ -151,6 +156,43 @@ public final class TermsTurnsTest {
         Sentence.due(y, 6, "next");
     }
 
+    private static void nextByEach() {
+        WheelStand side = bent();
+        Sentence.fill(side, SIDE, 10);
+        Sentence.fill(side, UP, 0);
+        side.read(0, 7, 50);
+        Sentence.due(side, 14, "next");
+        WheelStand up = bent();
+        up.read(1, 7, 50);
+        Sentence.due(up, 15, "next");
+        // the MIDDLE is 17, or -17, and 8 of SIDE make 1 of it
+        WheelStand middle = new WheelStand();
+        Sentence.fill(middle, SIDE, 4, 2);
+        middle.limit(2, 1);
+        middle.read(0, 0, 17);
+        Sentence.due(middle, 1, "next");
+        middle.read(0, 0, -17);
+        Sentence.due(middle, 0, "next");
+        middle.enter(SIDE, 1, 1);
+        Sentence.due(middle, NONE, "next");
+        middle.read(0, 0, 17);
+        Sentence.due(middle, 1, "next");
+        for (int spoke = 6; spoke < 8; spoke++) {
+            WheelStand spread = new WheelStand();
+            Sentence.fill(spread, PULL, 10);
+            spread.tune(spoke, 520);
+            Sentence.due(spread, 2 * spoke + 1, "next");
+            spread.tune(spoke, 480);
+            Sentence.due(spread, 2 * spoke, "next");
+        }
+        // WORST does not tell of what is LOOSE
+        WheelStand loose = new WheelStand();
+        Sentence.fill(loose, PULL, 10);
+        loose.kind(0, 0);
+        loose.tune(0, -5);
+        Sentence.due(loose, NONE, "next");
+    }
+
     private static void nextIsLess() {
         Sentence.due(new WheelStand(), NONE, "next");
         // 50 becomes 49, or 50 the other way
@@ -249,6 +291,111 @@ public final class TermsTurnsTest {
         Sentence.due(y, 700, "about", 0, 3);
     }
 
+    private static void fewestByRim() {
+        // up to the limit, 5, on either side, and not beyond it
+        dueFewest(bent(0, 15), 1, 1, -1);
+        dueFewest(bent(0, 16), 1, 1, -2);
+        dueFewest(bent(0, -15), 1, 1, 1);
+        dueFewest(bent(0, -16), 1, 1, 2);
+        WheelStand x = bent();
+        Sentence.fill(x, SIDE, 10);
+        Sentence.fill(x, UP, 0);
+        x.limit(0, 5);
+        int[] read = {15, 16, -15, -16};
+        int[] quarters = {-1, -2, 1, 2};
+        for (int i = 0; i < 4; i++) {
+            x.read(0, 2, read[i]);
+            dueFewest(x, 1, 2, quarters[i]);
+            x.read(0, 2, 0);
+            // one that leans -1 goes the other way
+            x.read(0, 3, read[i]);
+            dueFewest(x, 1, 3, -quarters[i]);
+            x.read(0, 3, 0);
+        }
+    }
+
+    /** A quarter makes 40 of SIDE together, 5 of the MIDDLE. */
+    private static void fewestByMiddle() {
+        WheelStand x = new WheelStand();
+        Sentence.fill(x, SIDE, 20, 10);
+        x.limit(0, 1000);
+        x.limit(2, 4);
+        x.read(0, 0, 4);
+        dueFewest(x, 0);
+        x.read(0, 0, 9);
+        dueFewest(x, 1, 0, -1);
+        x.read(0, 0, 10);
+        dueFewest(x, 1, 0, -2);
+        x.read(0, 0, -9);
+        dueFewest(x, 1, 0, 1);
+        x.read(0, 0, -10);
+        dueFewest(x, 1, 0, 2);
+        x.read(0, 0, 44);
+        dueFewest(x, 2, 0, -4, 1, 4);
+        x.read(0, 0, 45);
+        dueFewest(x);
+        x.read(0, 0, -44);
+        dueFewest(x, 2, 0, 4, 1, -4);
+        x.read(0, 0, -45);
+        dueFewest(x);
+        // a SPOKE that leans 0 does nothing to it
+        x.kind(0, 0);
+        x.read(0, 0, -9);
+        dueFewest(x, 1, 1, -1);
+    }
+
+    private static void fewestBySpread() {
+        for (int spoke = 2; spoke < 4; spoke++) {
+            int[] pulls = {370, 369, 340, 339, 280, 279, 630, 631, 660, 661, 720, 721};
+            int[] quarters = {1, 2, 2, 3, 4, 0, -1, -2, -2, -3, -4, 0};
+            for (int i = 0; i < pulls.length; i++) {
+                WheelStand x = new WheelStand();
+                Sentence.fill(x, PULL, 30);
+                x.tune(spoke, pulls[i]);
+                if (quarters[i] == 0) {
+                    dueFewest(x);
+                } else {
+                    dueFewest(x, 1, spoke, quarters[i]);
+                }
+            }
+        }
+        WheelStand both = new WheelStand();
+        Sentence.fill(both, PULL, 30);
+        both.tune(2, 340);
+        both.tune(3, 660);
+        dueFewest(both, 2, 2, 2, 3, -2);
+        both.limit(3, 99);
+        dueFewest(both, 2, 2, 3, 3, -3);
+        // two of one side: 410 and 520 are too far apart, 440 and 550, too
+        WheelStand apart = new WheelStand();
+        Sentence.fill(apart, PULL, 30);
+        apart.tune(0, 380);
+        apart.tune(6, 640);
+        dueFewest(apart, 2, 0, 2, 6, -4);
+    }
+
+    private static void fewestByLoose() {
+        int[] pulls = {-1, -30, -31, -120, -121};
+        int[] quarters = {1, 1, 2, 4, 0};
+        for (int i = 0; i < pulls.length; i++) {
+            WheelStand x = new WheelStand();
+            Sentence.fill(x, PULL, 30);
+            x.limit(3, 1000);
+            x.tune(7, pulls[i]);
+            if (quarters[i] == 0) {
+                dueFewest(x);
+            } else {
+                dueFewest(x, 1, 7, quarters[i]);
+                x.tune(6, -120);
+                dueFewest(x, 2, 6, 4, 7, quarters[i]);
+            }
+            // one that is gone is not LOOSE
+            x.tune(6, 500);
+            x.snap(7);
+            dueFewest(x, 0);
+        }
+    }
+
     private static void fewestNone() {
         dueFewest(new WheelStand(), 0);
         dueFewest(bent(5, -5), 0);
@@ -284,11 +431,31 @@ public final class TermsTurnsTest {
         dueFewest(bent(6, 0, 0, 0, 0, 0, 0, -6), 2, 0, -1, 7, 1);
         dueFewest(bent(0, 0, 0, 0, 0, 0, 45, -45), 2, 6, -4, 7, 4);
         dueFewest(bent(0, 0, 0, 0, 0, 0, 45, -46));
+        dueFewest(bent(0, 0, 0, 0, 0, 0, -45, 46));
         dueFewest(bent(0, 0, 0, 0, 0, 0, 46, -45));
+        dueFewest(bent(0, 0, 0, 0, 0, 0, -46, 45));
         // three are too many
         dueFewest(bent(6, 6, 6));
         // of one SPOKE there are no more than four, though it be turned twice
         dueFewest(bent(0, 0, 80));
+        // on the greatest wheel, the last two and none; and on a small one that was a great one
+        WheelStand great = new WheelStand();
+        great.wheel(32);
+        Sentence.fill(great, UP, 40);
+        great.read(1, 29, 0);
+        great.read(1, 30, 260);
+        great.read(1, 31, -260);
+        great.read(1, 0, 0);
+        dueFewest(great, 2, 30, -4, 31, 4);
+        great.read(1, 31, -261);
+        dueFewest(great);
+        great.wheel(8);
+        great.read(1, 0, 0);
+        great.read(1, 7, 261);
+        great.read(1, 6, 0);
+        dueFewest(great);
+        great.read(1, 7, 260);
+        dueFewest(great, 1, 7, -4);
     }
 
     private static void fewestLeastS() {

@@ -5,18 +5,18 @@ public final class TermsWheelTest {
 
     public static void main(String[] args) {
         Sentence.says("terms 1", "THE WHEEL has N HOLES, 8, 16 or 32 (8 at first), numbered round", TermsWheelTest::holes);
-        Sentence.says("terms 1", "BETWEEN holes i, j there are d steps, the less of both ways round, 0 .. N / 2 (UP)", TermsWheelTest::stepsOfUp);
-        Sentence.says("terms 1", "BETWEEN holes i, j there are d steps, the less of both ways round, 0 .. N / 2 (SIDE)", TermsWheelTest::stepsOfSide);
-        Sentence.says("terms 1", "BETWEEN holes i, j there are d steps, the less of both ways round, 0 .. N / 2 (PULL, OTHER)", TermsWheelTest::stepsOfPulls);
-        Sentence.says("terms 1", "BETWEEN holes i, j there are d steps, the less of both ways round, 0 .. N / 2 (BREAK)", TermsWheelTest::stepsOfBreak);
-        Sentence.says("terms 1", "BETWEEN holes i, j there are d steps, the less of both ways round, 0 .. N / 2 (LOAD)", TermsWheelTest::stepsOfLoad);
+        Sentence.says("terms 1, UP", "BETWEEN holes i, j there are d steps, the less of both ways round, 0 .. N / 2", TermsWheelTest::stepsOfUp);
+        Sentence.says("terms 1, SIDE", "BETWEEN holes i, j there are d steps, the less of both ways round, 0 .. N / 2", TermsWheelTest::stepsOfSide);
+        Sentence.says("terms 1, PULL, OTHER", "BETWEEN holes i, j there are d steps, the less of both ways round, 0 .. N / 2", TermsWheelTest::stepsOfPulls);
+        Sentence.says("terms 1, BREAK", "BETWEEN holes i, j there are d steps, the less of both ways round, 0 .. N / 2", TermsWheelTest::stepsOfBreak);
+        Sentence.says("terms 1, LOAD", "BETWEEN holes i, j there are d steps, the less of both ways round, 0 .. N / 2", TermsWheelTest::stepsOfLoad);
         Sentence.says("terms 1", "(All are SPOKES; THICK ones are RIGHT, too; STRAIGHT ones LEFT.)", TermsWheelTest::kindsOfKinds);
         Sentence.says("terms 1", "At first those at even HOLES are LEFT, others RIGHT.", TermsWheelTest::firstKinds);
         Sentence.says("terms 1", "a LEFT one 1, a RIGHT one -1, a SPOKE and one that is GONE 0", TermsWheelTest::leans);
         Sentence.says("terms 1", "ITS FORCE: 1; of a THICK one 2; of one that is GONE 0", TermsWheelTest::forces);
         Sentence.says("terms 1", "rows of up to 17 numbers -1000 .. 1000, by steps", TermsWheelTest::tablesReach);
         Sentence.says("terms 1", "each MISSING at first", TermsWheelTest::missingAtFirst);
-        Sentence.says("terms 1", "a place that a row has not counts as 0", TermsWheelTest::shortRows);
+        Sentence.says("terms 1", "a place that a row has not", TermsWheelTest::shortRows);
         Sentence.says("terms 1", "(or of a row that is MISSING) counts as 0", TermsWheelTest::missingRows);
         Sentence.says("terms 1", "A QUARTER TURN of SPOKE s (n quarters: n times that)", TermsWheelTest::quarters);
         Sentence.says("terms 1", "the SIDE at place p more by FORCE times how it LEANS times SIDE[d]", TermsWheelTest::sideByKind);

@@ -17,7 +17,7 @@ public final class TurnsEdgesTest {
         Sentence.says("promise 20", "NONE: there is no such", TurnsEdgesTest::fewestNoSuch);
         Sentence.says("promise 20", "for what 1 to 4: there are not so many.", TurnsEdgesTest::fewestNotSoMany);
         Sentence.says("promise 20", "BAD.", TurnsEdgesTest::fewestBad);
-        Sentence.says("promise 20", "(what would be done is not done)", TurnsEdgesTest::fewestKeepsAll);
+        Sentence.says("terms 3, nothing is done", "turns by which it would be WITHIN", TurnsEdgesTest::fewestKeepsAll);
         Sentence.says("promise 21", "Of the LOG, entry i: what 0 SPOKE, 1 quarters.", TurnsEdgesTest::log);
         Sentence.says("promise 21", "NONE: there are not so many.", TurnsEdgesTest::logNone);
         Sentence.says("promise 21", "BAD: i is below 0, what.", TurnsEdgesTest::logBad);
