@@ -372,6 +372,21 @@ public final class TermsTurnsTest {
         apart.tune(0, 380);
         apart.tune(6, 640);
         dueFewest(apart, 2, 0, 2, 6, -4);
+        // the sides may pull far more, or less, than one another
+        for (int side = 0; side < 2; side++) {
+            WheelStand x = new WheelStand();
+            Sentence.fill(x, PULL, 30);
+            for (int s = side; s < 8; s += 2) {
+                x.tune(s, 900);
+            }
+            x.tune(2 + side, 740);
+            dueFewest(x, 1, 2 + side, 2);
+            for (int s = side; s < 8; s += 2) {
+                x.tune(s, 100);
+            }
+            x.tune(2 + side, 260);
+            dueFewest(x, 1, 2 + side, -2);
+        }
     }
 
     private static void fewestByLoose() {
@@ -555,6 +570,18 @@ public final class TermsTurnsTest {
         dueFewest(z);
         z.snap(3);
         dueFewest(z);
+        // the last one of the greatest wheel
+        WheelStand last = new WheelStand();
+        last.wheel(32);
+        last.read(1, 30, 0);
+        last.read(1, 31, -101);
+        last.read(1, 0, 0);
+        Sentence.fill(last, UP, 10);
+        Sentence.fill(last, PULL, 50);
+        last.limit(4, 550);
+        dueFewest(last, 1, 31, 1);
+        last.limit(4, 549);
+        dueFewest(last);
     }
 
     private static void fewestInOrder() {
