@@ -610,22 +610,24 @@ public final class WheelStand {
         }
 
         int spreadOf(int alike) {
-            int least = Integer.MAX_VALUE;
-            int greatest = Integer.MIN_VALUE;
+            int least = 0;
+            int greatest = 0;
+            boolean any = false;
             for (int j = 0; j < rig.holes; j++) {
                 if (rig.leanOf(j) == alike) {
                     int pull = pullOf(j);
-                    if (pull < least) {
+                    if (!any || pull < least) {
                         least = pull;
                         slackest = j;
                     }
-                    if (pull > greatest) {
+                    if (!any || pull > greatest) {
                         greatest = pull;
                         tightest = j;
                     }
+                    any = true;
                 }
             }
-            return greatest < least ? 0 : greatest - least;
+            return greatest - least;
         }
 
         int worst() {

